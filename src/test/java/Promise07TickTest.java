@@ -2,6 +2,7 @@ public final class Promise07TickTest {
     public static void main(String[] args) {
         enquiresOnItsDays();
         enquiresInOneLeap();
+        leapsOverEightyDueDays();
         asksByDaysThenNumbers();
         asksOnlyWhatIsAwaited();
         recoversOnItsDay();
@@ -37,6 +38,16 @@ public final class Promise07TickTest {
         Check.due("RECOVERED", x.state(0, 0), 5);
         Check.due("all of it", x.state(0, 2), 1000);
         Check.due("NOW", x.count(3), 10000);
+    }
+
+    private static void leapsOverEightyDueDays() {
+        TransitSteps x = new TransitSteps(3);
+        for (int m = 0; m < 20; m++) {
+            x.movement(0, 1, 100 * m, 9, 5, 10);
+        }
+        Check.due("tick(10000) over all", x.tick(10000), 60);
+        Check.due("all RECOVERED", x.count(5), 200);
+        Check.due("all ended", x.count(6), 20);
     }
 
     private static void asksByDaysThenNumbers() {
@@ -129,6 +140,7 @@ public final class Promise07TickTest {
         int[][] rows = {
             {3, 1, 10, 7}, {3, 2, 10, 4}, {3, 3, 10, 0}, {3, 0, 10, 10}, {7, 6, 1, 1}, {7, 6, 0, 0}, {1000, 999, 1, 1},
             {1000, 1, 1000000, 999000}, {1000, 0, 1000000, 1000000}, {999, 1, 1000000, 998999}, {10, 5, 10, 5},
+            {1, 0, 7, 7}, {1, 1, 7, 0}, {2, 1, 7, 4},
         };
         for (int[] row : rows) {
             TransitSteps x = new TransitSteps(2);
