@@ -2,83 +2,127 @@ public final class Promise04ControlTest {
     public static void main(String[] args) {
         sendsTheResult();
         isDoneElsewhereToo();
-        isRefused();
-        isDoneThoughEnded();
-        throwsForWrongInputs();
+        haveNotArrived();
+        wereControlled();
+        isDoneWhereverTheMovementStands();
+        noSuchMovement();
+        foundThatCannotBe();
+        wrongInputsThrowWhereTheCallWouldBeRefused();
         Check.end();
     }
 
-    private static TransitSteps oneMovement() {
-        TransitSteps x = new TransitSteps(4);
-        x.movement(1, 2, 10, 77, 5, 1000);
-        return x;
-    }
-
     private static void sendsTheResult() {
-        TransitSteps x = oneMovement();
+        Check.sentence("They are CONTROLLED: 1");
+        Run x = Scene.begun();
         x.arrive(0, 2, 70);
         Check.due("control(0, 3)", x.control(0, 3), 1);
         Check.due("one message more", x.count(2), 3);
         Check.same("RESULT", " 3 0 2 1 3 70 0", Look.message(x, 2));
-        Check.due("controlled there", x.office(0, 2), 24);
-        Check.due("the departure does not know yet", x.state(0, 6), -1);
-        Check.due("nothing accounted for yet", x.state(0, 1), 0);
+        Check.same("the departure was told nothing yet", " 1 0 0 0 -1 -1 -1 -1 0 offices 0 1 24 0", Look.movement(x, 0));
     }
 
     private static void isDoneElsewhereToo() {
-        TransitSteps x = oneMovement();
+        Check.sentence("then they are CONTROLLED there, once");
+        Run x = Scene.begun();
         x.arrive(0, 0, 77);
-        Check.due("control(0, 0)", x.control(0, 0), 1);
-        Check.same("RESULT from elsewhere", " 3 0 0 1 0 77 0", Look.message(x, 3));
-        Check.due("controlled there", x.office(0, 0), 24);
-        Check.due("not at the destination", x.office(0, 2), 0);
-        Check.due("none FOUND is FOUND all the same", x.control(0, 1), 0);
+        Check.due("control(0, 5)", x.control(0, 5), 1);
+        Check.due("one message more", x.count(2), 4);
+        Check.same("RESULT from elsewhere", " 3 0 0 1 5 77 0", Look.message(x, 3));
+        Check.row("controlled there, office", office -> x.office(0, office), 24, 1, 0, 0);
     }
 
-    private static void isRefused() {
-        TransitSteps x = oneMovement();
-        refusedByNought(x, "before arrival");
-        x.arrive(0, 2, 77);
-        x.control(0, 5);
-        refusedByNought(x, "a second time");
-    }
-
-    private static void refusedByNought(TransitSteps x, String when) {
-        String before = Look.at(x);
-        Check.due("control " + when, x.control(0, 4), 0);
-        Check.same("control " + when, before, Look.at(x));
-    }
-
-    private static void isDoneThoughEnded() {
-        TransitSteps x = oneMovement();
-        x.arrive(0, 2, 77);
-        x.proof(0);
-        Check.due("control when DISCHARGED", x.control(0, 4), 1);
-        Check.due("its RESULT", x.message(2, 0), 3);
-        Check.due("receive it", x.receive(1, 2), 1);
-        Check.due("FOUND is known", x.state(0, 6), 4);
-        Check.due("nothing is accounted for", x.state(0, 1), 0);
-        Check.due("still DISCHARGED", x.state(0, 0), 6);
-        TransitSteps y = oneMovement();
-        y.arrive(0, 2, 77);
-        y.tick(50);
-        Check.due("RECOVERED", y.state(0, 0), 5);
-        Check.due("control when RECOVERED", y.control(0, 4), 1);
-    }
-
-    private static void throwsForWrongInputs() {
-        TransitSteps x = oneMovement();
-        for (int found : new int[] {-1, 1001, Integer.MIN_VALUE, Integer.MAX_VALUE}) {
-            Check.refused(x, "control(0, " + found + ") before arrival", Check.ARGUMENT, () -> x.control(0, found));
+    private static void haveNotArrived() {
+        Check.sentence("0 if they have not arrived or were controlled.");
+        Scene[] onTheirWay = {
+            Scene.ON_THE_WAY, Scene.ENQUIRED, Scene.RECOVERED, Scene.DISCHARGED_BY_PROOF, Scene.DISCHARGED_AFTER_RECOVERY,
+        };
+        for (Scene scene : onTheirWay) {
+            Run x = scene.make();
+            Check.idle(x, scene + ": control", 0, () -> x.control(0, 5));
+            Check.idle(x, scene + ": control of none", 0, () -> x.control(0, 0));
         }
+        Run x = Scene.begun();
+        x.arrive(0, 1, 77);
+        Check.idle(x, "control behind a refused arrival", 0, () -> x.control(0, 5));
+    }
+
+    private static void wereControlled() {
+        Check.sentence("0 if they have not arrived or were controlled.");
+        for (int found : new int[] {0, 5, 1000}) {
+            Run x = Scene.begun();
+            x.arrive(0, 2, 77);
+            Check.due("control of " + found, x.control(0, found), 1);
+            Check.idle(x, "the same again", 0, () -> x.control(0, found));
+            Check.idle(x, "another number", 0, () -> x.control(0, 4));
+            x.receive(1, 2);
+            Check.idle(x, "when the departure knows", 0, () -> x.control(0, 5));
+        }
+        for (Scene scene : new Scene[] {Scene.DIFFERS, Scene.DISCHARGED_BY_RESULT, Scene.DISCHARGED_BY_PIECES}) {
+            Run x = scene.make();
+            Check.idle(x, scene + ": control", 0, () -> x.control(0, 5));
+        }
+    }
+
+    /** Goods that have arrived and were not controlled are so, whatever the departure makes of the movement. */
+    private static void isDoneWhereverTheMovementStands() {
+        Check.sentence("They are CONTROLLED: 1; 0 if they have not arrived or were controlled.");
+        Run discharged = Scene.begun();
+        discharged.arrive(0, 2, 77);
+        discharged.proof(0);
+        isDone(discharged, "DISCHARGED", 6);
+        Run recovered = Scene.begun();
+        recovered.arrive(0, 2, 77);
+        recovered.tick(50);
+        isDone(recovered, "RECOVERED", 5);
+        isDone(Scene.ARRIVED.make(), "ARRIVED", 2);
+        Run enquired = Scene.ENQUIRED.make();
+        enquired.arrive(0, 2, 77);
+        isDone(enquired, "ENQUIRED", 4);
+    }
+
+    private static void isDone(Run x, String when, int state) {
+        int message = x.count(2);
+        Check.due("control when " + when, x.control(0, 4), 1);
+        Check.same("RESULT when " + when, " 3 0 2 1 4 77 0", Look.message(x, message));
+        Check.due("one message more when " + when, x.count(2), message + 1);
+        Check.due("STATE until told when " + when, x.state(0, 0), state);
+        Check.due("controlled there when " + when, x.office(0, 2) & 16, 16);
+    }
+
+    private static void noSuchMovement() {
+        Check.sentence("IllegalArgumentException if there is no such movement, or found is not 0 .. 1000.");
+        Run none = new Run(4);
+        Check.refused(none, "control(0, 1) of none", Check.ARGUMENT, () -> none.control(0, 1));
+        Run x = Scene.begun();
+        x.arrive(0, 2, 77);
+        for (int m : new int[] {-1, 1, 19, 20, Integer.MIN_VALUE, Integer.MAX_VALUE}) {
+            Check.refused(x, "control(" + m + ", 1)", Check.ARGUMENT, () -> x.control(m, 1));
+        }
+    }
+
+    private static void foundThatCannotBe() {
+        Check.sentence("so many pieces are FOUND (0 .. 1000)");
+        Run x = Scene.begun();
         x.arrive(0, 2, 77);
         for (int found : new int[] {-1, 1001, Integer.MIN_VALUE, Integer.MAX_VALUE}) {
             Check.refused(x, "control(0, " + found + ")", Check.ARGUMENT, () -> x.control(0, found));
         }
-        for (int m : new int[] {-1, 1, 20, Integer.MIN_VALUE, Integer.MAX_VALUE}) {
-            Check.refused(x, "control(" + m + ", 1)", Check.ARGUMENT, () -> x.control(m, 1));
+        for (int found : new int[] {0, 1, 999, 1000}) {
+            Run y = Scene.begun();
+            y.arrive(0, 2, 77);
+            Check.due("control(0, " + found + ")", y.control(0, found), 1);
+            Check.due(found + " is told", y.message(2, 4), found);
+            y.receive(1, 2);
+            Check.due(found + " is known", y.state(0, 6), found);
         }
-        Check.due("1000 FOUND", x.control(0, 1000), 1);
-        Check.due("told as 1000", x.message(2, 4), 1000);
+    }
+
+    private static void wrongInputsThrowWhereTheCallWouldBeRefused() {
+        Check.sentence("IllegalArgumentException if there is no such movement, or found is not 0 .. 1000.");
+        for (Scene scene : Scene.values()) {
+            Run x = scene.make();
+            Check.refused(x, scene + ": found -1", Check.ARGUMENT, () -> x.control(0, -1));
+            Check.refused(x, scene + ": found 1001", Check.ARGUMENT, () -> x.control(0, 1001));
+        }
     }
 }

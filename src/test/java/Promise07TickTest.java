@@ -1,191 +1,97 @@
 public final class Promise07TickTest {
     public static void main(String[] args) {
-        enquiresOnItsDays();
-        enquiresInOneLeap();
-        leapsOverEightyDueDays();
-        asksByDaysThenNumbers();
-        asksOnlyWhatIsAwaited();
-        recoversOnItsDay();
-        recoversWhateverHasNotEnded();
-        roundsUp();
-        sameDayDoesNothing();
-        stopsAtTheLastDay();
-        throwsForWrongInputs();
+        isTheDay();
+        answersHowManyEnquiries();
+        theSameDayAgain();
+        aheadOfNow();
+        aboveTheLastDay();
+        leapsAsItWalks();
         Check.end();
     }
 
-    private static void enquiresOnItsDays() {
-        TransitSteps x = new TransitSteps(3);
-        x.movement(2, 1, 100, 77, 5, 1000);
-        for (int day = 1; day <= 200; day++) {
-            int due = day == 110 || day == 115 || day == 120 ? 1 : 0;
-            Check.due("tick(" + day + ")", x.tick(day), due);
+    private static void isTheDay() {
+        Check.sentence("NOW is a day (0 at first), 0 .. 10000.");
+        Run x = new Run(2);
+        Check.due("NOW at first", x.count(3), 0);
+        for (int day : new int[] {0, 1, 2, 9998, 9999, 10000}) {
+            Check.due("tick(" + day + ")", x.tick(day), 0);
             Check.due("NOW", x.count(3), day);
-            int state = day < 110 ? 1 : day < 140 ? 4 : 5;
-            Check.due("STATE on day " + day, x.state(0, 0), state);
         }
-        Check.due("enquiries sent", x.state(0, 3), 3);
-        Check.due("messages", x.count(2), 4);
-        Check.same("the first", " 4 0 2 1 1 0 0", Look.message(x, 1));
-        Check.same("the second", " 4 0 2 1 2 0 0", Look.message(x, 2));
-        Check.same("the third", " 4 0 2 1 3 0 0", Look.message(x, 3));
+        Run y = new Run(2);
+        Check.due("tick(10000) at once", y.tick(10000), 0);
+        Check.due("NOW", y.count(3), 10000);
     }
 
-    private static void enquiresInOneLeap() {
-        TransitSteps x = new TransitSteps(3);
-        x.movement(2, 1, 100, 77, 5, 1000);
-        Check.due("tick(10000)", x.tick(10000), 3);
-        Check.due("RECOVERED", x.state(0, 0), 5);
-        Check.due("all of it", x.state(0, 2), 1000);
-        Check.due("NOW", x.count(3), 10000);
-    }
-
-    private static void leapsOverEightyDueDays() {
-        TransitSteps x = new TransitSteps(3);
+    private static void answersHowManyEnquiries() {
+        Check.sentence("It is a day: how many enquiries were sent.");
+        Run x = new Run(3);
         for (int m = 0; m < 20; m++) {
-            x.movement(0, 1, 100 * m, 9, 5, 10);
-        }
-        Check.due("tick(10000) over all", x.tick(10000), 60);
-        Check.due("all RECOVERED", x.count(5), 200);
-        Check.due("all ended", x.count(6), 20);
-    }
-
-    private static void asksByDaysThenNumbers() {
-        TransitSteps x = new TransitSteps(3);
-        x.movement(0, 1, 5, 1, 1, 1);
-        x.movement(0, 1, 0, 1, 1, 1);
-        x.movement(0, 2, 5, 1, 1, 1);
-        Check.due("tick(25)", x.tick(25), 9);
-        // Days 10: 1; 15: 0, 1, 2; 20: 0, 1, 2; 25: 0, 2.
-        int[][] due = {{1, 1}, {0, 1}, {1, 2}, {2, 1}, {0, 2}, {1, 3}, {2, 2}, {0, 3}, {2, 3}};
-        for (int i = 0; i < due.length; i++) {
-            Check.due("kind of message " + (3 + i), x.message(3 + i, 0), 4);
-            Check.due("movement of message " + (3 + i), x.message(3 + i, 1), due[i][0]);
-            Check.due("which of message " + (3 + i), x.message(3 + i, 4), due[i][1]);
-        }
-    }
-
-    private static void asksOnlyWhatIsAwaited() {
-        TransitSteps x = new TransitSteps(3);
-        for (int m = 0; m < 4; m++) {
             x.movement(0, 1, 0, 9, 5, 100);
         }
-        x.arrive(0, 1, 9);
-        x.receive(0, 4);
-        x.arrive(1, 1, 9);
-        x.control(1, 3);
-        x.receive(0, 6);
-        x.proof(2);
-        x.arrive(3, 1, 9);
-        Check.due("ARRIVED, DIFFERS, DISCHARGED are not asked for; what was not told is", x.tick(10), 1);
-        Check.same("the one", " 4 3 0 1 1 0 0", Look.message(x, 8));
-        Check.due("ARRIVED stays", x.state(0, 0), 2);
-        Check.due("DIFFERS stays", x.state(1, 0), 3);
-        Check.due("DISCHARGED stays", x.state(2, 0), 6);
-        Check.due("ENQUIRED", x.state(3, 0), 4);
-        x.receive(1, 8);
-        x.receive(0, 9);
-        Check.due("ARRIVED by the answer", x.state(3, 0), 2);
-        Check.due("no enquiry more", x.tick(30), 0);
-        Check.due("enquiries of 3", x.state(3, 3), 1);
-        Check.due("enquiries of 0", x.state(0, 3), 0);
+        Check.due("tick(9)", x.tick(9), 0);
+        Check.due("tick(10)", x.tick(10), 20);
+        x.proof(0);
+        x.proof(19);
+        Check.due("tick(14)", x.tick(14), 0);
+        Check.due("tick(20)", x.tick(20), 36);
+        Check.due("messages", x.count(2), 76);
+        Check.due("tick(10000), recoveries are no enquiries", x.tick(10000), 0);
+        Check.due("messages", x.count(2), 76);
     }
 
-    private static void recoversOnItsDay() {
-        TransitSteps x = new TransitSteps(2);
-        x.movement(0, 1, 3, 9, 5, 100);
-        x.movement(0, 1, 4, 9, 5, 70);
-        x.tick(42);
-        Check.due("not 39 days behind", x.state(0, 0), 4);
-        x.tick(43);
-        Check.due("40 days behind", x.state(0, 0), 5);
-        Check.due("the other not yet", x.state(1, 0), 4);
-        Check.due("RESERVED", x.count(4), 70);
-        Check.due("sum RECOVERED", x.count(5), 100);
-        x.tick(44);
-        Check.due("then the other", x.state(1, 0), 5);
-        Check.due("RESERVED", x.count(4), 0);
-        Check.due("sum RECOVERED", x.count(5), 170);
-        Check.due("ended", x.count(6), 2);
-    }
-
-    private static void recoversWhateverHasNotEnded() {
-        TransitSteps x = new TransitSteps(2);
-        for (int m = 0; m < 4; m++) {
-            x.movement(0, 1, 0, 9, 10, 999);
-        }
-        x.arrive(0, 1, 9);
-        x.receive(0, 4);
-        x.arrive(1, 1, 9);
-        x.control(1, 6);
-        x.receive(0, 6);
-        Check.due("discharge(1, 1)", x.discharge(1, 1), 3);
-        x.proof(2);
-        x.arrive(3, 1, 8);
-        x.control(3, 10);
-        x.receive(0, 8);
-        x.tick(40);
-        Check.due("ARRIVED is RECOVERED", x.state(0, 0), 5);
-        Check.due("whole", x.state(0, 2), 999);
-        Check.due("DIFFERS is RECOVERED", x.state(1, 0), 5);
-        Check.due("three tenths of it, rounded up", x.state(1, 2), 300);
-        Check.due("DISCHARGED is not", x.state(2, 0), 6);
-        Check.due("nothing of it", x.state(2, 2), 0);
-        Check.due("DIFFERS by the seal alone is RECOVERED", x.state(3, 0), 5);
-        Check.due("nothing of it", x.state(3, 2), 0);
-        Check.due("sum", x.count(5), 1299);
-    }
-
-    private static void roundsUp() {
-        int[][] rows = {
-            {3, 1, 10, 7}, {3, 2, 10, 4}, {3, 3, 10, 0}, {3, 0, 10, 10}, {7, 6, 1, 1}, {7, 6, 0, 0}, {1000, 999, 1, 1},
-            {1000, 1, 1000000, 999000}, {1000, 0, 1000000, 1000000}, {999, 1, 1000000, 998999}, {10, 5, 10, 5},
-            {1, 0, 7, 7}, {1, 1, 7, 0}, {2, 1, 7, 4},
-        };
-        for (int[] row : rows) {
-            TransitSteps x = new TransitSteps(2);
-            x.movement(0, 1, 0, 9, row[0], row[2]);
-            x.arrive(0, 1, 8);
-            x.control(0, row[1]);
-            x.receive(0, 2);
-            x.tick(40);
-            Check.due(row[2] + " secured, " + row[1] + " of " + row[0], x.state(0, 2), row[3]);
+    private static void theSameDayAgain() {
+        Check.sentence("each day behind NOW up to the one that is told");
+        for (int day : new int[] {0, 9, 10, 15, 20, 40, 10000}) {
+            Run x = new Run(2);
+            x.movement(0, 1, 0, 9, 5, 100);
+            x.tick(day);
+            Check.idle(x, "tick(" + day + ") again", 0, () -> x.tick(day));
         }
     }
 
-    private static void sameDayDoesNothing() {
-        TransitSteps x = new TransitSteps(2);
+    private static void aheadOfNow() {
+        Check.sentence("IllegalArgumentException if it is ahead of NOW, or above 10000.");
+        Run x = new Run(2);
         x.movement(0, 1, 0, 9, 5, 100);
-        Check.due("tick(10)", x.tick(10), 1);
-        String before = Look.at(x);
-        Check.due("tick(10) again", x.tick(10), 0);
-        Check.same("tick(10) again", before, Look.at(x));
-        Check.due("tick(0) of a new one", new TransitSteps(2).tick(0), 0);
+        Check.refused(x, "tick(-1) on day 0", Check.ARGUMENT, () -> x.tick(-1));
+        Check.refused(x, "the lowest number on day 0", Check.ARGUMENT, () -> x.tick(Integer.MIN_VALUE));
+        for (int now : new int[] {1, 12, 9999, 10000}) {
+            x.tick(now);
+            for (int day : new int[] {now - 1, 0, -1, Integer.MIN_VALUE}) {
+                Check.refused(x, "tick(" + day + ") on day " + now, Check.ARGUMENT, () -> x.tick(day));
+            }
+            Check.due("NOW", x.count(3), now);
+        }
     }
 
-    private static void stopsAtTheLastDay() {
-        TransitSteps x = new TransitSteps(2);
-        int[] limits = {9960, 9961, 9980, 9981, 9990, 9991, 10000};
-        int[] enquiries = {3, 3, 3, 2, 1, 0, 0};
-        for (int limit : limits) {
-            x.movement(0, 1, limit, 9, 5, 100);
-        }
-        Check.due("tick(10000)", x.tick(10000), 12);
-        for (int m = 0; m < limits.length; m++) {
-            Check.due("enquiries with limit " + limits[m], x.state(m, 3), enquiries[m]);
-        }
-        Check.due("limit 9960 is RECOVERED", x.state(0, 0), 5);
-        Check.due("limit 9961 is not", x.state(1, 0), 4);
-        Check.due("tick(10000) again", x.tick(10000), 0);
-    }
-
-    private static void throwsForWrongInputs() {
-        TransitSteps x = new TransitSteps(2);
+    private static void aboveTheLastDay() {
+        Check.sentence("IllegalArgumentException if it is ahead of NOW, or above 10000.");
+        Run x = new Run(2);
         x.movement(0, 1, 0, 9, 5, 100);
-        Check.refused(x, "tick(-1)", Check.ARGUMENT, () -> x.tick(-1));
-        x.tick(12);
-        for (int day : new int[] {11, 0, -1, 10001, Integer.MIN_VALUE, Integer.MAX_VALUE}) {
-            Check.refused(x, "tick(" + day + ") on day 12", Check.ARGUMENT, () -> x.tick(day));
+        for (int now : new int[] {0, 1, 9999, 10000}) {
+            x.tick(now);
+            for (int day : new int[] {10001, 10002, Integer.MAX_VALUE}) {
+                Check.refused(x, "tick(" + day + ") on day " + now, Check.ARGUMENT, () -> x.tick(day));
+            }
         }
+        Check.due("tick(10000) on day 10000", x.tick(10000), 0);
+    }
+
+    /** Twenty movements whose days lie among each other: one leap leaves the same behind as a walk day by day. */
+    private static void leapsAsItWalks() {
+        Check.sentence("each day behind NOW up to the one that is told, on each the movements by numbers");
+        Run leaps = new Run(3);
+        Run walks = new Run(3);
+        for (int m = 0; m < 20; m++) {
+            leaps.movement(0, 1 + m % 2, 7 * m % 23, 9, 5, 10 + m);
+            walks.movement(0, 1 + m % 2, 7 * m % 23, 9, 5, 10 + m);
+        }
+        int sent = 0;
+        for (int day = 1; day <= 100; day++) {
+            sent += walks.tick(day);
+        }
+        Check.due("a walk to day 100", sent, 60);
+        Check.due("a leap to day 100", leaps.tick(100), 60);
+        Check.same("what a leap leaves behind", Look.at(walks), Look.at(leaps));
     }
 }

@@ -1,19 +1,21 @@
 public final class Promise13CountTest {
     public static void main(String[] args) {
         countsAll();
+        countsMessagesOnTheirWay();
         sumsTheHighest();
-        answersNoneForAnotherWhat();
+        sumsTheLowest();
+        noneForAnotherWhat();
         Check.end();
     }
 
-    private static void are(TransitSteps x, String when, int... due) {
-        for (int what = 0; what < due.length; what++) {
-            Check.due(when + ": count(" + what + ")", x.count(what), due[what]);
-        }
+    private static void are(Run x, String when, int... due) {
+        Check.row(when + ": count", x::count, due);
     }
 
     private static void countsAll() {
-        TransitSteps x = new TransitSteps(6);
+        Check.sentence("what 0: offices, 1: movements, 2: messages, 3: NOW, 4: RESERVED, 5: sum of what was RECOVERED, "
+                + "6: movements that have ended, 7: messages on their way.");
+        Run x = new Run(6);
         are(x, "new", 6, 0, 0, 0, 0, 0, 0, 0);
         x.movement(0, 1, 10, 77, 10, 1000);
         x.movement(1, 2, 20, 78, 10, 300);
@@ -33,8 +35,24 @@ public final class Promise13CountTest {
         are(x, "one DISCHARGED", 6, 3, 9, 60, 0, 300, 3, 7);
     }
 
+    private static void countsMessagesOnTheirWay() {
+        Check.sentence("7: messages on their way");
+        for (Mail mail : Mail.values()) {
+            Run x = mail.make();
+            int onTheirWay = x.count(7);
+            x.receive(3 - mail.receiver, mail.number);
+            Check.due(mail + " at another office", x.count(7), onTheirWay);
+            x.receive(mail.receiver, mail.number);
+            int answers = mail == Mail.ENQUIRY ? 1 : 0;
+            Check.due(mail + " received", x.count(7), onTheirWay - 1 + answers);
+            x.lose(mail.number);
+            Check.due(mail + " received and not lost", x.count(7), onTheirWay - 1 + answers);
+        }
+    }
+
     private static void sumsTheHighest() {
-        TransitSteps x = new TransitSteps(2);
+        Check.sentence("RESERVED is the sum of AMOUNTS of movements that have not ended.");
+        Run x = new Run(2);
         for (int m = 0; m < 20; m++) {
             x.movement(0, 1, 0, 1, 1000, 1000000);
         }
@@ -43,10 +61,24 @@ public final class Promise13CountTest {
         are(x, "all RECOVERED", 2, 20, 80, 40, 0, 20000000, 20, 80);
     }
 
-    private static void answersNoneForAnotherWhat() {
-        TransitSteps x = new TransitSteps(2);
-        for (int what : new int[] {-1, 8, 9, 100, Integer.MIN_VALUE, Integer.MAX_VALUE}) {
-            Check.due("count(" + what + ")", x.count(what), -1);
+    private static void sumsTheLowest() {
+        Check.sentence("RESERVED is the sum of AMOUNTS of movements that have not ended.");
+        Run x = new Run(2);
+        x.movement(0, 1, 0, 1, 1, 0);
+        are(x, "nothing secured", 2, 1, 1, 0, 0, 0, 0, 1);
+        x.tick(40);
+        are(x, "RECOVERED all the same", 2, 1, 4, 40, 0, 0, 1, 4);
+        Check.due("STATE", x.state(0, 0), 5);
+    }
+
+    private static void noneForAnotherWhat() {
+        Check.sentence("NONE for another what.");
+        Check.due("NONE", TransitSteps.NONE, -1);
+        for (Scene scene : Scene.values()) {
+            Run x = scene.make();
+            for (int what : new int[] {-1, 8, 9, 100, 256, Integer.MIN_VALUE, Integer.MAX_VALUE}) {
+                Check.idle(x, scene + ": count(" + what + ")", -1, () -> x.count(what));
+            }
         }
     }
 }

@@ -1,9 +1,9 @@
 import java.util.Random;
 
-/** Runs of 512 calls drawn from a fixed seed: each answer, and now and then all that can be seen, against PlainTransit. */
+/** Runs of calls drawn from fixed seeds: each answer, and now and then all that can be seen, against PlainTransit. */
 public final class RandomRunsTest {
     private static final int RUNS = 1500;
-    private static final int CALLS = 512;
+    private static final int CALLS = 500;
     private static final int[] ODD = {-1, 0, 1, 2, 9, 20, 200, 1001, 10001, 1000000001, Integer.MIN_VALUE, Integer.MAX_VALUE};
 
     private interface Call {
@@ -11,7 +11,7 @@ public final class RandomRunsTest {
     }
 
     private final Random random;
-    private final TransitSteps x;
+    private final Run x;
     private final PlainTransit plain;
     private final int run;
 
@@ -19,7 +19,7 @@ public final class RandomRunsTest {
         this.run = run;
         random = new Random(run);
         int offices = random.nextInt(12) - 1;
-        x = new TransitSteps(offices);
+        x = new Run(offices);
         plain = new PlainTransit(offices);
     }
 
@@ -37,6 +37,7 @@ public final class RandomRunsTest {
                 lookAtAll();
             }
         }
+        lookAtAll();
     }
 
     /** Mostly a number that can be, now and then one that can't. */
@@ -45,13 +46,10 @@ public final class RandomRunsTest {
     }
 
     private void step() {
-        int movements = x.count(1);
-        int messages = x.count(2);
-        int offices = x.count(0);
-        int now = x.count(3);
-        int a = some(movements);
-        int b = some(offices);
-        int c = some(messages);
+        int now = (int) plain.count(3);
+        int a = some((int) plain.count(1));
+        int b = some((int) plain.count(0));
+        int c = some((int) plain.count(2));
         switch (random.nextInt(12)) {
             case 0: begin(now); break;
             case 1: {
@@ -90,8 +88,8 @@ public final class RandomRunsTest {
     }
 
     private void begin(int now) {
-        int from = some(x.count(0));
-        int to = some(x.count(0));
+        int from = some((int) plain.count(0));
+        int to = some((int) plain.count(0));
         int limit = random.nextInt(20) == 0 ? some(10001) : now + random.nextInt(12) - 1;
         int seal = random.nextInt(20) == 0 ? some(5) : 1;
         int pieces = random.nextInt(4) == 0 ? some(1001) : 3;
