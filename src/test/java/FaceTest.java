@@ -2,33 +2,55 @@ import java.lang.reflect.Constructor;
 import java.lang.reflect.Field;
 import java.lang.reflect.Method;
 import java.lang.reflect.Modifier;
-import java.util.Arrays;
 import java.util.Set;
 import java.util.TreeSet;
 
 /** The class shows the document's face and nothing else. */
 public final class FaceTest {
-    private static final Set<String> FACE = new TreeSet<>(Arrays.asList(
-            "int movement(int, int, int, int, int, int) throws IllegalArgumentException, IllegalStateException",
-            "int arrive(int, int, int) throws IllegalArgumentException",
-            "int control(int, int) throws IllegalArgumentException",
-            "int receive(int, int) throws IllegalArgumentException",
-            "boolean lose(int)",
-            "int tick(int) throws IllegalArgumentException",
-            "int discharge(int, int) throws IllegalArgumentException",
-            "int proof(int) throws IllegalArgumentException",
-            "int state(int, int) throws IndexOutOfBoundsException",
-            "int office(int, int) throws IndexOutOfBoundsException",
-            "int message(int, int) throws IndexOutOfBoundsException",
-            "int count(int)"));
+    /** As the document writes it, but for the ';' behind each. */
+    private static final String[] WRITTEN = {
+        "public int movement(int from, int to, int limit, int seal, int pieces, int amount)"
+                + " throws IllegalArgumentException, IllegalStateException",
+        "public int arrive(int movement, int office, int seal) throws IllegalArgumentException",
+        "public int control(int movement, int found) throws IllegalArgumentException",
+        "public int receive(int office, int message) throws IllegalArgumentException",
+        "public boolean lose(int message)",
+        "public int tick(int day) throws IllegalArgumentException",
+        "public int discharge(int movement, int n) throws IllegalArgumentException",
+        "public int proof(int movement) throws IllegalArgumentException",
+        "public int state(int movement, int what) throws IndexOutOfBoundsException",
+        "public int office(int movement, int office) throws IndexOutOfBoundsException",
+        "public int message(int i, int what) throws IndexOutOfBoundsException",
+        "public int count(int what)",
+    };
 
     public static void main(String[] args) {
+        Check.sentence("The public face");
         Check.due("public final", TransitSteps.class.getModifiers(), Modifier.PUBLIC | Modifier.FINAL);
+        writtenAsInTheDocument();
         methods();
         constructors();
         fields();
         classesInside();
         Check.end();
+    }
+
+    /** Parameters have the document's names too, which only the source shows. */
+    private static void writtenAsInTheDocument() {
+        String source = Source.code().replaceAll("\\s+", " ");
+        Check.yes("the class as written", source.startsWith("public final class TransitSteps { public static final int NONE = -1; "));
+        Check.yes("the constructor as written", source.contains(" public TransitSteps(int offices) {"));
+        for (String method : WRITTEN) {
+            Check.yes(method + " as written", source.contains(" " + method + " {"));
+        }
+    }
+
+    private static Set<String> face() {
+        Set<String> face = new TreeSet<>();
+        for (String method : WRITTEN) {
+            face.add(method.replace("public ", "").replaceAll("(int) \\w+(?=[,)])", "$1"));
+        }
+        return face;
     }
 
     private static void methods() {
@@ -41,7 +63,7 @@ public final class FaceTest {
                 names.add(m.getName());
             }
         }
-        Check.same("the face", FACE.toString(), seen.toString());
+        Check.same("the face", face().toString(), seen.toString());
         for (Method m : TransitSteps.class.getDeclaredMethods()) {
             if (Modifier.isPrivate(m.getModifiers())) {
                 Check.no(m.getName() + " bears a public name", names.contains(m.getName()));
@@ -69,6 +91,8 @@ public final class FaceTest {
     }
 
     private static void fields() {
+        Check.sentence("The constants: `NONE = -1`: None.");
+        Check.due("NONE", TransitSteps.NONE, -1);
         for (Field f : TransitSteps.class.getDeclaredFields()) {
             int bits = f.getModifiers();
             boolean none = f.getName().equals("NONE")
